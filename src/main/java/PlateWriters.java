@@ -163,7 +163,7 @@ public final class PlateWriters {
         for (int place = 0; place < PLACES; place++) {
             sum += (double) glass.light[place];
         }
-        return bitsOfDouble(sum / 120.0);
+        return bitsOfMean(sum / 120.0);
     }
 
     // ---- what if; nothing changes (the bound of hours does not matter)
@@ -318,7 +318,7 @@ public final class PlateWriters {
     }
 
     // The bits are found by arithmetic, as the library that tells them is none of those that LANGUAGE.md lists.
-    // Light is never below 0; halving and doubling a double is exact, so that no bit is lost on the way.
+    // Light is never below 0, and a mean never above 1; halving and doubling a double is exact, so no bit is lost.
 
     private static int bitsOfFloat(float value) {
         double rest = (double) value;
@@ -337,16 +337,12 @@ public final class PlateWriters {
         return (exponent + 127) << 23 | (int) ((rest - 1.0) * 8388608.0);
     }
 
-    private static long bitsOfDouble(double value) {
+    private static long bitsOfMean(double value) {
         double rest = value;
         int exponent = 0;
         while (rest < 1.0 && exponent > -1022) {
             rest *= 2.0;
             exponent--;
-        }
-        while (rest >= 2.0 && exponent < 1023) {
-            rest /= 2.0;
-            exponent++;
         }
         if (rest < 1.0) {
             return (long) (rest * 4503599627370496.0);

@@ -36,6 +36,13 @@ public final class PromisesTest {
         return x;
     }
 
+    private static void writeAndRub(PlateWriters x, int times, int row, int column) {
+        for (int i = 0; i < times; i++) {
+            x.write(0, row, column, 0);
+            x.rub(row, column);
+        }
+    }
+
     private static int put(PlateWriters x, String text) {
         int answer = 0;
         for (int from = 0; from < text.length(); from += 8) {
@@ -182,16 +189,26 @@ public final class PromisesTest {
         light("at(1, 11, 3)", x.at(1, 11, 3), 1.0f);
         x.write(0, 4, 11, 0);
         light("at(5, 0, 3)", x.at(5, 0, 3), 1.0f);
-        x = desk(3);
-        x.set(0, 0);
-        x.set(1, 7);
-        x.write(0, 0, 0, 0);
-        for (int i = 0; i < 8; i++) x.write(0, 0, 2, 0 * x.rub(0, 2));
-        float light = dim(1.0f, 0);
-        for (int i = 0; i < 8; i++) light = dim(light, 0);
-        light("at(0, 1, 3) by losses of 0", x.at(0, 1, 3), light);
+        lossOfNothing();
         writeCountsAndErrors();
         lightVanishes();
+    }
+
+    /** A step with a loss of 0 is a step also: it may change the last bit. */
+    private static void lossOfNothing() {
+        PlateWriters x = desk(1);
+        x.set(0, 7);
+        x.write(0, 0, 1, 0);
+        x.write(0, 0, 0, 0);
+        x.rub(0, 1);
+        x.set(0, 0);
+        float light = (dim(1.0f, 7) + 1.0f) / 2.0f;
+        due("a step with a loss of 0 changes something", dim(light, 0) == light ? 1 : 0, 0);
+        light("at(0, 1, 3)", x.at(0, 1, 3), light);
+        x.promise(0, 0, 2);
+        light("at(0, 1, 4)", x.at(0, 1, 4), dim(light, 0));
+        x.write(0, 0, 2, 0);
+        light("at(0, 1, 3) behind a loss of 0", x.at(0, 1, 3), dim(light, 0));
     }
 
     private static void writeCountsAndErrors() {
@@ -238,8 +255,7 @@ public final class PromisesTest {
         x.set(0, 18);
         float light = 1.0f;
         for (int i = 0; i < 60; i++) {
-            x.write(0, 0, 1, 0);
-            x.rub(0, 1);
+            writeAndRub(x, 1, 0, 1);
             light = dim(light, 90);
             light("at(0, 0, 3) after " + i, x.at(0, 0, 3), light);
         }
@@ -268,6 +284,7 @@ public final class PromisesTest {
         due("promise with too little light told ahead", x.promise(0, 5, 6), NOT_POSSIBLE);
         x.set(2, 65);
         due("promise with enough light told ahead", x.promise(0, 5, 6), 3);
+        due("promise(1, 0, 0) on a new plate", desk(1, 1).promise(1, 0, 0), 1);
         due("promise without a plate", new PlateWriters().promise(0, 0, 0), NO_SUCH);
         due("promise without a writer", desk().promise(0, 0, 0), NO_SUCH);
         x.plate();
@@ -484,6 +501,39 @@ public final class PromisesTest {
         due("ofPlate(0, 3)", x.ofPlate(0, 3), 117 - 7);
         for (int plate : new int[] {-1, 2, 4, MIN, MAX}) due("ofPlate(" + plate + ", 9)", x.ofPlate(plate, 9), NO_SUCH);
         for (int what : new int[] {-1, 6, MIN, MAX}) due("ofPlate(0, " + what + ")", x.ofPlate(0, what), BAD_VALUE);
+        darker();
+    }
+
+    /** Sums, means and least lights of a plate that becomes dark place by place. */
+    private static void darker() {
+        PlateWriters x = desk(5);
+        x.set(2, 1);
+        for (int place = 1; place < 120; place++) {
+            if (place % 7 == 0) continue;
+            x.write(0, place / 12, place % 12, 0);
+            float sum = 0.0f, least = 1.0f;
+            double mean = 0.0;
+            for (int other = 0; other < 120; other++) {
+                float light = Float.intBitsToFloat(x.at(other / 12, other % 12, 3));
+                sum += light;
+                mean += (double) light;
+                least = Math.min(least, light);
+            }
+            light("ofPlate(0, 4)", x.ofPlate(0, 4), least);
+            light("ofPlate(0, 5)", x.ofPlate(0, 5), sum);
+            due("mean()", x.mean(), Double.doubleToLongBits(mean / 120.0));
+        }
+        due("a mean below a quarter", Double.longBitsToDouble(x.mean()) < 0.25 ? 1 : 0, 1);
+        x = desk(5);
+        x.write(0, 0, 1, 0);
+        x.write(0, 1, 0, 0);
+        x.write(0, 1, 1, 0);
+        light("the first place is the darkest", x.ofPlate(0, 4), dim(dim(dim(1.0f, 30), 30), 30));
+        x = desk(5);
+        x.write(0, 0, 0, 0);
+        x.write(0, 0, 2, 0);
+        x.write(0, 1, 1, 0);
+        light("the second place is the darkest", x.ofPlate(0, 4), dim(dim(dim(1.0f, 30), 30), 30));
     }
 
     private static void promise15() {
@@ -559,6 +609,12 @@ public final class PromisesTest {
         due("what has no light any more does not count", y.ifWritten(0, 5, 8, 1), 0);
         y.set(2, 70);
         due("but what has it", y.ifWritten(0, 5, 8, 1), 1);
+        y = desk(5);
+        y.set(2, 80);
+        y.promise(0, 0, 0);
+        y.promise(0, 9, 11);
+        due("the first place", y.ifWritten(0, 1, 1, 1), 1);
+        due("the last place", y.ifWritten(0, 8, 10, 1), 1);
     }
 
     private static void promise18() {
@@ -620,6 +676,14 @@ public final class PromisesTest {
         x.set(0, 0);
         x.set(1, 0);
         due("fills(0) without losses", x.fills(0), 118);
+        for (int last : new int[] {0, 119}) {
+            x = desk(5);
+            x.set(0, 0);
+            x.set(1, 0);
+            for (int place = 0; place < 120; place++) if (place != last) x.write(0, place / 12, place % 12, 0);
+            due("fills(0) with one place left", x.fills(0), 1);
+            due("bestPlace() with one place left", x.bestPlace(), last);
+        }
         x = desk(5);
         x.set(2, 99);
         x.write(0, 4, 4, 0);
@@ -658,6 +722,10 @@ public final class PromisesTest {
         due("on the plate on the desk", x.whoDims(5, 7), NONE);
         x.promise(3, 5, 7);
         due("a promise does not count", x.whoDims(5, 6), NONE);
+        x.write(2, 0, 0, 0);
+        due("the first place", x.whoDims(0, 2), 2);
+        x.write(2, 9, 11, 0);
+        due("the last place", x.whoDims(9, 9), 2);
     }
 
     private static void promise21() {
@@ -695,6 +763,13 @@ public final class PromisesTest {
             due("readableIn(0) with READ " + read, x.readableIn(0), hours);
         }
         due("some hours are many", hours > 450 && hours <= 500 ? 1 : 0, 1);
+        for (int place : new int[] {0, 119}) {
+            x = desk(1);
+            x.write(0, place / 12, place % 12, 0);
+            x.set(0, 18);
+            writeAndRub(x, 9, place == 0 ? 1 : 8, place == 0 ? 1 : 10);
+            due("a letter at the edge", x.readableIn(0) > 0 ? 1 : 0, 1);
+        }
         x = desk(5, 5);
         for (int i = 0; i < 208; i++) x.pass(48);
         x.pass(15);
@@ -805,6 +880,10 @@ public final class PromisesTest {
         int before = x.count(9);
         due("none carried out", carry(x, "h99;n"), 0);
         due("is a change also", x.count(9), before + 1);
+        due("a text", carry(x, "h1;h1;h1"), 3);
+        due("a shorter text behind it", carry(x, "h1"), 1);
+        x.undo();
+        x.undo();
         due("o9", carry(x, "o9"), 0);
         due("o0", carry(x, "o0"), 0);
         due("k0", carry(x, "k0"), 0);
@@ -848,7 +927,30 @@ public final class PromisesTest {
             }
             x.restore(0);
         }
+        undoOfEachChange();
         undoLeavesPadAndSlots();
+    }
+
+    private static void undoOfEachChange() {
+        PlateWriters x = desk(5, 1);
+        x.plate();
+        x.write(0, 4, 4, 3);
+        x.promise(1, 7, 7);
+        x.save(0);
+        x.rub(4, 4);
+        Runnable[] changes = {() -> x.set(0, 9), () -> x.plate(), () -> x.lay(0), () -> x.writer(4),
+            () -> x.write(0, 4, 7, 1), () -> x.promise(0, 0, 0), () -> x.takeBack(7, 7), () -> x.write(1, 4, 4, 3),
+            () -> x.rub(4, 4), () -> x.pass(2), () -> carry(x, "k2;x@4.4"), () -> x.restore(0)};
+        for (int i = 0; i < changes.length; i++) {
+            x.set(3, i);
+            if (i == 8) x.write(0, 4, 4, 3);
+            for (int k = 0; k < 6; k++) x.pass(1);
+            long before = stateOf(x);
+            changes[i].run();
+            due("change " + i + " changes something", stateOf(x) == before ? 1 : 0, 0);
+            due("undo() of change " + i, x.undo(), 5);
+            due("the state before change " + i, stateOf(x), before);
+        }
     }
 
     private static Runnable changeOf(PlateWriters x, int kind) {
@@ -936,6 +1038,13 @@ public final class PromisesTest {
         due("restore(0)", x.restore(0), NOT_POSSIBLE);
         due("restore(1)", x.restore(1), 1);
         due("all is as saved", stateOf(x), saved);
+        PlateWriters y = new PlateWriters();
+        y.writer(5);
+        y.save(0);
+        y.undo();
+        y.writer(1);
+        y.restore(0);
+        due("how hard was pressed then", y.of(0, 0), 5);
         x.takeBack(5, 5);
         due("the slot keeps it", x.restore(1), 1);
         due("all is as saved", stateOf(x), saved);

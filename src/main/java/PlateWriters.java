@@ -910,12 +910,18 @@ public final class PlateWriters {
         int readPad() {
             size = 0;
             next = 0;
-            do {
+            for (int orders = 0; orders < Pad.LONGEST; orders++) {
                 if (!readOrder()) {
                     return next;
                 }
-            } while (next < pad.length && reads(';'));
-            return next < pad.length ? next : NONE;
+                if (next >= pad.length) {
+                    return NONE;
+                }
+                if (!reads(';')) {
+                    return next;
+                }
+            }
+            return next;
         }
 
         private boolean readOrder() {

@@ -226,7 +226,8 @@ abstract class Checks {
 
     private static void run(Method method) {
         Boundary boundary = method.getAnnotation(Boundary.class);
-        about = "promise " + boundary.of() + ", " + method.getName() + " (\"" + String.join("\", \"", boundary.says()) + "\")";
+        String says = String.join("\", \"", boundary.says());
+        about = "promise " + boundary.of() + ", " + method.getName() + " (\"" + says + "\")";
         int before = passed + failed;
         try {
             method.invoke(null);

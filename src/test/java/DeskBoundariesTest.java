@@ -351,7 +351,7 @@ public final class DeskBoundariesTest extends Checks {
 
     private static PlateWriters lateDesk(int hours) {
         PlateWriters x = someDesk();
-        for (int i = x.count(0); i < hours; i = x.count(0)) x.pass(Math.min(48, hours - i));
+        for (int late = x.count(0); late < hours;) late = x.pass(Math.min(48, hours - late));
         for (int value = 11; value < 16; value++) x.set(CLEAR, value);
         return x;
     }

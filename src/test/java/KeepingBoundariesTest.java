@@ -120,6 +120,21 @@ public final class KeepingBoundariesTest extends Checks {
     }
 
     @Boundary(of = 26, says = "everything except the pad, the slots and the history is as it was before it")
+    static void howHardWasPressedIsUndoneAlso() {
+        PlateWriters x = new PlateWriters();
+        x.save(0);
+        x.writer(5);
+        x.writer(4);
+        x.restore(0);
+        x.writer(1);
+        x.writer(2);
+        for (int i = 0; i < 3; i++) x.undo();
+        due("count(3)", x.count(3), 2);
+        due("of(0, 0)", x.of(0, 0), 5);
+        due("of(1, 0)", x.of(1, 0), 4);
+    }
+
+    @Boundary(of = 26, says = "everything except the pad, the slots and the history is as it was before it")
     static void thePadStaysBehindAnUndo() {
         PlateWriters x = desk();
         put(x, "h1;h1");
@@ -298,6 +313,19 @@ public final class KeepingBoundariesTest extends Checks {
         due("bestPlace()", x.bestPlace(), NO_SUCH);
         due("plate()", x.plate(), 0);
         due("writer(2)", x.writer(2), 0);
+    }
+
+    @Boundary(of = 28, says = "Restores what was saved last in a slot")
+    static void restoreOfAllAboutAWriter() {
+        PlateWriters x = desk(5);
+        x.write(0, 4, 4, 0);
+        x.set(READ, 71);
+        x.save(1);
+        for (int i = 0; i < 4; i++) x.undo();
+        x.writer(1);
+        due("restore(1)", x.restore(1), 1);
+        int[] want = {5, 1, 1, 0, 1, 0};
+        for (int what = 0; what < 6; what++) due("of(0, " + what + ")", x.of(0, what), want[what]);
     }
 
     @Boundary(of = 28, says = "Returns how many plates there are then")

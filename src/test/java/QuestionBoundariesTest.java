@@ -223,7 +223,8 @@ public final class QuestionBoundariesTest extends Checks {
     static void anEmptyRow() {
         int[] want = {0, 0, 0, 4095, 0};
         for (int row : new int[] {0, 9})
-            for (int what = 0; what < 5; what++) due("row(" + row + ", " + what + ")", desk(5).row(row, what), want[what]);
+            for (int what = 0; what < 5; what++)
+                due("row(" + row + ", " + what + ")", desk(5).row(row, what), want[what]);
     }
 
     @Boundary(of = 12, says = "0 columns with a letter, 1 with one that can be read")
@@ -450,7 +451,8 @@ public final class QuestionBoundariesTest extends Checks {
 
     @Boundary(of = 14, says = "BAD_VALUE if what is out of range")
     static void ofPlateWithABadWhat() {
-        for (int what : new int[] {-1, 6, MIN, MAX}) refused("ofPlate, what " + what, d -> d.ofPlate(1, what), BAD_VALUE);
+        for (int what : new int[] {-1, 6, MIN, MAX})
+            refused("ofPlate, what " + what, d -> d.ofPlate(1, what), BAD_VALUE);
     }
 
     @Boundary(of = 14, says = "NO_SUCH if there is no such plate; BAD_VALUE if what is out of range")
@@ -511,30 +513,22 @@ public final class QuestionBoundariesTest extends Checks {
     }
 
     @Boundary(of = 14, says = "4 the bits of its least light")
-    static void theDarkestPlaceOfEveryPlate() {
+    static void eachPlaceAsTheOnlyDarkestOne() {
         for (int place = 0; place < 120; place++) {
+            int row = place / 12, column = place % 12;
+            int left = column == 0 ? 1 : column - 1, right = column == 11 ? 10 : column + 1;
+            int above = row == 0 ? 1 : row - 1, below = row == 9 ? 8 : row + 1;
             PlateWriters x = desk(5);
             x.set(FAR, 0);
-            int row = place / 12, column = place % 12, side = column == 0 ? 1 : column == 11 ? 10 : column - 1;
-            x.write(0, row, side, 0);
-            x.write(0, row == 9 ? 8 : row + 1, column, 0);
-            light("the darkest place is " + place, x.at(row, column, 3), dim(dim(1.0f, 30), 30));
-            light("ofPlate(0, 4)", x.ofPlate(0, 4), dim(dim(1.0f, 30), 30));
+            x.write(0, row, left, 0);
+            if (left != right) x.write(0, row, right, 0);
+            x.write(0, above, column, 0);
+            if (left == right) x.write(0, below, above == below ? left : column, 0);
+            float darkest = dim(dim(dim(1.0f, 30), 30), 30);
+            for (int other = 0; other < 120; other++)
+                due("place " + other + " beside " + place, lightOf(x, other) <= darkest ? 1 : 0, other == place ? 1 : 0);
+            light("ofPlate(0, 4)", x.ofPlate(0, 4), darkest);
         }
-    }
-
-    @Boundary(of = 14, says = "4 the bits of its least light")
-    static void theFirstAndTheLastPlaceAreTheOnlyDarkestOnes() {
-        PlateWriters x = desk(5);
-        x.write(0, 0, 1, 0);
-        x.write(0, 1, 0, 0);
-        x.write(0, 1, 1, 0);
-        light("the first place", x.ofPlate(0, 4), dim(dim(dim(1.0f, 30), 30), 30));
-        x = desk(5);
-        x.write(0, 8, 10, 0);
-        x.write(0, 8, 11, 0);
-        x.write(0, 9, 10, 0);
-        light("the last place", x.ofPlate(0, 4), dim(dim(dim(1.0f, 30), 30), 30));
     }
 
     /** Lights of so many kinds that their sums depend on the order. */
@@ -645,6 +639,28 @@ public final class QuestionBoundariesTest extends Checks {
         for (int place = 0; place < 120; place++) sum += (double) lightOf(x, place);
         sure("it is dark", sum / 120.0 < 0.125);
         due("mean()", x.mean(), Double.doubleToLongBits(sum / 120.0));
+    }
+
+    @Boundary(of = 16, says = "Returns the bits, as Double.doubleToLongBits tells them")
+    static void sumsAndMeansFromFullLightToLittle() {
+        for (int letters = 0; letters <= 120; letters += 3) {
+            PlateWriters x = desk(5);
+            x.set(READ, 1);
+            x.set(NEAR, letters % 2 == 0 ? 18 : 6);
+            x.set(FAR, letters % 4);
+            for (int place = 0; place < letters; place++) x.write(0, place / 12, place % 12, 0);
+            double mean = 0.0;
+            float sum = 0.0f, least = 1.0f;
+            for (int place = 0; place < 120; place++) {
+                float light = lightOf(x, place);
+                mean += (double) light;
+                sum += light;
+                least = light < least ? light : least;
+            }
+            due("mean()", x.mean(), Double.doubleToLongBits(mean / 120.0));
+            light("ofPlate(0, 5)", x.ofPlate(0, 5), sum);
+            light("ofPlate(0, 4)", x.ofPlate(0, 4), least);
+        }
     }
 
     public static void main(String[] args) {

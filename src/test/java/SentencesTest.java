@@ -12,7 +12,8 @@ public final class SentencesTest {
         KeepingBoundariesTest.class};
     private static final Pattern CLAUSE = Pattern.compile("(?:[^;.\n]|[.;](?! |\n))+");
     /** Headings, and the rows that tell where a call stands in the interface. */
-    private static final Pattern NO_CLAUSE = Pattern.compile("#.*|CONVENTIONS|Plates, writers|Ahead of the calls.*|```.*");
+    private static final Pattern NO_CLAUSE =
+            Pattern.compile("#.*|CONVENTIONS|Plates, writers|Ahead of the calls.*|```.*");
 
     private static int wrong = 0, clauses = 0;
 

@@ -262,7 +262,8 @@ public final class TextBoundariesTest extends Checks {
     static void aTextOfEightyCharacters() {
         faults("w0@0.0=" + repeated("z", 73, ""), NONE, "w0@0.0=" + repeated("z", 72, "") + ";", 80,
                 "w0@0.0=" + repeated("z", 72, "") + "0", 79, repeated("n", 40, ";"), NONE,
-                repeated("n", 40, ";") + ";", 80, repeated("n", 40, ";") + "n", 79, repeated("n", 38, ";") + ";h99", NONE,
+                repeated("n", 40, ";") + ";", 80, repeated("n", 40, ";") + "n", 79,
+                repeated("n", 38, ";") + ";h99", NONE,
                 repeated("n", 37, ";") + ";x@9.1", NONE, repeated("n", 37, ";") + ";x@9.10", NONE,
                 repeated("n", 37, ";") + ";x@9.1.", 79);
     }

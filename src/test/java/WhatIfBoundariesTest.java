@@ -192,6 +192,18 @@ public final class WhatIfBoundariesTest extends Checks {
         due("light 1.0, READ 91", x.ifWritten(1, 9, 8, 1), 0);
     }
 
+    @Boundary(of = 17, says = "1 promised places, but itself, whose light")
+    static void promisesAtEachCorner() {
+        int[][] beside = {{1, 1}, {1, 10}, {8, 1}, {8, 10}};
+        for (int i = 0; i < 4; i++) {
+            PlateWriters x = desk(5);
+            x.promise(0, CORNERS[i][0], CORNERS[i][1]);
+            x.set(READ, 71);
+            for (int other = 0; other < 4; other++)
+                due("what 1", x.ifWritten(0, beside[other][0], beside[other][1], 1), other == i ? 1 : 0);
+        }
+    }
+
     @Boundary(of = 17, says = "would be too little then, and is not now")
     static void promisesWithTooLittleLightNow() {
         PlateWriters x = desk(5);

@@ -663,6 +663,24 @@ public final class QuestionBoundariesTest extends Checks {
         }
     }
 
+    /** Takes, round by round, half of the light of so many rings that do not meet; halves are no rounded floats. */
+    private static PlateWriters halved(int... rings) {
+        PlateWriters x = desk(5);
+        x.set(NEAR, 10);
+        x.set(FAR, 0);
+        for (int many : rings)
+            for (int i = 0; i < many; i++) writeAndRub(x, 1, 1 + i / 4 * 3, 1 + i % 4 * 3);
+        return x;
+    }
+
+    @Boundary(of = 16, says = "Returns the bits, as Double.doubleToLongBits tells them")
+    static void sumsAndMeansThatAreJustAPowerOfTwo() {
+        light("half of each ring", halved(12).ofPlate(0, 5), 72.0f);
+        light("sum 64", halved(12, 4).ofPlate(0, 5), 64.0f);
+        light("sum 32", halved(12, 12, 12, 8).ofPlate(0, 5), 32.0f);
+        due("mean 0.5", halved(12, 6).mean(), Double.doubleToLongBits(0.5));
+    }
+
     public static void main(String[] args) {
         runAll(QuestionBoundariesTest.class);
     }

@@ -47,6 +47,9 @@ public final class FaceTest {
             "assert", "Float.", "Double.", "System.out", "package ", "\" +", "+ \"", "static float", "static double",
             "final float ", "final double ", "strictfp", "native", "volatile", "?>");
 
+    /** So that no object is asked more than 512 times. */
+    private static final int ROUNDS = 4, OBJECTS = 8, OF_EACH = 17;
+
     private static int wrong = 0;
 
     private static void due(String what, Object got, Object want) {
@@ -106,20 +109,24 @@ public final class FaceTest {
 
     /** One room holds all that a run makes: after the constructor, no call makes anything. */
     private static void room() {
-        PlateWriters x = new PlateWriters();
-        x.plate();
-        x.writer(1);
+        PlateWriters[] objects = new PlateWriters[ROUNDS * OBJECTS];
+        for (int i = 0; i < objects.length; i++) {
+            objects[i] = new PlateWriters();
+            objects[i].plate();
+            objects[i].writer(1);
+        }
         com.sun.management.ThreadMXBean threads =
                 (com.sun.management.ThreadMXBean) ManagementFactory.getThreadMXBean();
         long self = Thread.currentThread().getId();
-        long[] made = new long[4];
-        for (int round = 0; round < made.length; round++) {
+        long[] made = new long[ROUNDS];
+        for (int round = 0; round < ROUNDS; round++) {
             long before = threads.getThreadAllocatedBytes(self);
-            for (int i = 0; i < 120; i++) oneOfEach(x, i);
+            for (int i = 0; i < OBJECTS * OF_EACH; i++) oneOfEach(objects[round * OBJECTS + i / OF_EACH], i);
             made[round] = threads.getThreadAllocatedBytes(self) - before;
         }
         Arrays.sort(made);
-        due("bytes made by 120 calls of each (" + made[0] + ") are few", made[0] < 4096L, true);
+        int calls = OBJECTS * OF_EACH;
+        due("bytes made by " + calls + " calls of each (" + made[0] + ") are few", made[0] < 4096L, true);
     }
 
     private static void oneOfEach(PlateWriters x, int i) {

@@ -1,18 +1,21 @@
 /** Each promise of the document, with answers reckoned by hand from its words. */
 public final class PromisesTest extends Checks {
 
-    /** All that can be asked of an object without the dear questions, as one number. */
-    private static long all(PlateWriters x) {
+    /** What there is, as one number, but not how much can be undone; few calls, as an object bears only 512. */
+    private static long stateOf(PlateWriters x) {
         long all = x.mean();
-        for (int what = 0; what < 10; what++) all = 31 * all + x.count(what);
+        for (int what = 0; what < 9; what++) all = 31 * all + x.count(what);
         for (int row = 0; row < 10; row++)
-            for (int column = 0; column < 12; column++)
-                for (int what = 0; what < 5; what++) all = 31 * all + x.at(row, column, what);
+            for (int what = 0; what < 4; what++) all = 31 * all + x.row(row, what);
         for (int who = 0; who < 5; who++)
             for (int what = 0; what < 6; what++) all = 31 * all + x.of(who, what);
         for (int plate = 0; plate < 4; plate++)
             for (int what = 0; what < 6; what++) all = 31 * all + x.ofPlate(plate, what);
         return all;
+    }
+
+    private static long all(PlateWriters x) {
+        return 31 * stateOf(x) + x.count(9);
     }
 
     private static void promise1() {
@@ -31,9 +34,9 @@ public final class PromisesTest extends Checks {
     }
 
     private static void promise2() {
-        PlateWriters x = desk(1);
         int[] first = {6, 2, 40, 10}, least = {0, 0, 1, 0}, most = {18, 9, 99, 50};
         for (int s = 0; s < 4; s++) {
+            PlateWriters x = desk(1);
             long before = all(x);
             due("set(" + s + ", too little)", x.set(s, least[s] - 1), BAD_VALUE);
             due("set(" + s + ", too much)", x.set(s, most[s] + 1), BAD_VALUE);
@@ -45,7 +48,7 @@ public final class PromisesTest extends Checks {
             due("set(" + s + ", most) again", x.set(s, most[s]), most[s]);
             due("count(" + (4 + s) + ")", x.count(4 + s), most[s]);
         }
-        for (int s : new int[] {-1, 4, MIN, MAX}) due("set(" + s + ", 5)", x.set(s, 5), BAD_VALUE);
+        for (int s : new int[] {-1, 4, MIN, MAX}) due("set(" + s + ", 5)", desk(1).set(s, 5), BAD_VALUE);
     }
 
     private static void promise3() {
@@ -443,10 +446,11 @@ public final class PromisesTest extends Checks {
     /** Sums, means and least lights of a plate that becomes dark place by place. */
     private static void darker() {
         PlateWriters x = desk(5);
-        x.set(2, 1);
-        for (int place = 1; place < 120; place++) {
-            if (place % 7 == 0) continue;
-            x.write(0, place / 12, place % 12, 0);
+        for (int places = 1; places <= 120; places++) {
+            x = desk(5);
+            x.set(2, 1);
+            for (int place = 1; place < places; place++)
+                if (place % 7 != 0) x.write(0, place / 12, place % 12, 0);
             float sum = 0.0f, least = 1.0f;
             double mean = 0.0;
             for (int other = 0; other < 120; other++) {
@@ -567,9 +571,9 @@ public final class PromisesTest extends Checks {
         x.set(1, 0);
         for (int place = 36; place < 120; place++) x.write(0, place / 12, place % 12, 0);
         int best = x.bestPlace();
+        float most = Float.intBitsToFloat(x.at(best / 12, best % 12, 4));
         for (int place = 0; place < 120; place++) {
             float it = Float.intBitsToFloat(x.at(place / 12, place % 12, 4));
-            float most = Float.intBitsToFloat(x.at(best / 12, best % 12, 4));
             boolean better = x.at(place / 12, place % 12, 5) == 1 && (it > most || it == most && place < best);
             due("place " + place + " is better than " + best, better ? 1 : 0, 0);
         }
@@ -590,20 +594,9 @@ public final class PromisesTest extends Checks {
         PlateWriters x = new PlateWriters();
         x.writer(1);
         due("fills(0) without a plate", x.fills(0), NO_SUCH);
-        x = desk(1, 5);
+        x = deskToFill();
         for (int who : new int[] {-1, 2, 5, MIN, MAX}) due("fills(" + who + ")", x.fills(who), NO_SUCH);
-        x.promise(0, 4, 4);
-        x.write(1, 7, 7, 0);
-        int[] wants = new int[2];
-        for (int who = 0; who < 2; who++) {
-            x.save(0);
-            for (int best = x.bestPlace(); best != NONE; best = x.bestPlace()) {
-                x.promise(who, best / 12, best % 12);
-                x.write(who, best / 12, best % 12, 0);
-                wants[who]++;
-            }
-            x.restore(0);
-        }
+        int[] wants = {filledByHand(deskToFill(), 0), filledByHand(deskToFill(), 1)};
         long before = all(x);
         due("fills(0)", x.fills(0), wants[0]);
         due("fills(1)", x.fills(1), wants[1]);
@@ -626,6 +619,23 @@ public final class PromisesTest extends Checks {
         due("fills(0) of a plate that is empty", x.fills(0) > 0 ? 1 : 0, 1);
         for (int place = 0; place < 120; place++) x.write(0, place / 12, place % 12, 0);
         due("fills(0) without room", x.fills(0), 0);
+    }
+
+    private static PlateWriters deskToFill() {
+        PlateWriters x = desk(1, 5);
+        x.promise(0, 4, 4);
+        x.write(1, 7, 7, 0);
+        return x;
+    }
+
+    private static int filledByHand(PlateWriters x, int who) {
+        int letters = 0;
+        for (int best = x.bestPlace(); best != NONE; best = x.bestPlace()) {
+            x.promise(who, best / 12, best % 12);
+            x.write(who, best / 12, best % 12, 0);
+            letters++;
+        }
+        return letters;
     }
 
     private static void promise20() {
@@ -839,7 +849,6 @@ public final class PromisesTest extends Checks {
     private static void promise26() {
         PlateWriters x = new PlateWriters();
         due("undo()", x.undo(), NOT_POSSIBLE);
-        long[] states = new long[12];
         for (int i = 0; i < 8; i++) {
             x.pass(1);
             due("count(9)", x.count(9), Math.min(6, i + 1));
@@ -849,62 +858,48 @@ public final class PromisesTest extends Checks {
             due("count(0)", x.count(0), 2 + i);
         }
         due("undo()", x.undo(), NOT_POSSIBLE);
-        x = desk(5, 1);
-        Runnable[] changes = {() -> { }, changeOf(x, 0), changeOf(x, 1), changeOf(x, 2), changeOf(x, 3)};
-        for (int round = 0; round < 3; round++) {
-            x.save(0);
-            for (int i = 0; i < changes.length; i++) {
-                changes[i].run();
-                states[i] = stateOf(x);
-            }
-            for (int i = changes.length - 2; i >= 0; i--) {
-                x.undo();
-                due("the state before change " + (i + 1), stateOf(x), states[i]);
-            }
-            x.restore(0);
+        for (int i = 0; i <= 4; i++) {
+            int left = i;
+            same("undone until " + left + " changes are left", () -> undone(changed(4), 4 - left), () -> changed(left));
         }
         undoOfEachChange();
         undoLeavesPadAndSlots();
     }
 
+    private static PlateWriters changed(int changes) {
+        PlateWriters x = new PlateWriters();
+        carry(x, "n;k5;k1");
+        if (changes > 0) x.write(0, 1, 1, 4);
+        if (changes > 1) x.promise(1, 2, 2);
+        if (changes > 2) carry(x, "n;w1@3.3=xyz;h5;o0;h3");
+        if (changes > 3) x.set(0, 17);
+        return x;
+    }
+
+    private static PlateWriters undone(PlateWriters x, int times) {
+        for (int i = 0; i < times; i++) x.undo();
+        return x;
+    }
+
     private static void undoOfEachChange() {
-        PlateWriters x = desk(5, 1);
-        x.plate();
-        x.write(0, 4, 4, 3);
-        x.promise(1, 7, 7);
-        x.save(0);
-        x.rub(4, 4);
-        Runnable[] changes = {() -> x.set(0, 9), () -> x.plate(), () -> x.lay(0), () -> x.writer(4),
-            () -> x.write(0, 4, 7, 1), () -> x.promise(0, 0, 0), () -> x.takeBack(7, 7), () -> x.write(1, 4, 4, 3),
-            () -> x.rub(4, 4), () -> x.pass(2), () -> carry(x, "k2;x@4.4"), () -> x.restore(0)};
+        Call[] changes = {x -> x.set(0, 9), x -> x.plate(), x -> x.lay(0), x -> x.writer(4),
+            x -> x.write(0, 4, 7, 1), x -> x.promise(0, 0, 0), x -> x.takeBack(7, 7), x -> x.write(1, 4, 4, 3),
+            x -> x.rub(4, 3), x -> x.pass(2), x -> carry(x, "k2;x@4.3"), x -> x.restore(0)};
         for (int i = 0; i < changes.length; i++) {
-            x.set(3, i);
-            if (i == 8) x.write(0, 4, 4, 3);
+            PlateWriters x = desk(5, 1);
+            x.plate();
+            x.write(0, 4, 4, 3);
+            x.promise(1, 7, 7);
+            x.save(0);
+            x.rub(4, 4);
+            x.write(0, 4, 3, 3);
             for (int k = 0; k < 6; k++) x.pass(1);
             long before = stateOf(x);
-            changes[i].run();
+            changes[i].on(x);
             due("change " + i + " changes something", stateOf(x) == before ? 1 : 0, 0);
             due("undo() of change " + i, x.undo(), 5);
             due("the state before change " + i, stateOf(x), before);
         }
-    }
-
-    private static Runnable changeOf(PlateWriters x, int kind) {
-        switch (kind) {
-            case 0: return () -> x.write(0, 1, 1, 4);
-            case 1: return () -> x.promise(1, 2, 2);
-            case 2: return () -> carry(x, "n;w1@3.3=xyz;h5;o0;h3");
-            default: return () -> x.set(0, 17);
-        }
-    }
-
-    /** As all(), but without the number of changes that can be undone. */
-    private static long stateOf(PlateWriters x) {
-        long all = all(x);
-        long undoable = x.count(9);
-        long factor = 1L;
-        for (int i = 0; i < 600 + 30 + 24; i++) factor *= 31;
-        return all - undoable * factor;
     }
 
     private static void undoLeavesPadAndSlots() {

@@ -2,13 +2,17 @@ import java.util.Random;
 
 /** Runs of calls from fixed seeds, each answer compared with the one of PlainDesk. */
 public final class RandomRunsTest {
-    private static final int RUNS = 200, CALLS = 512;
+    private static final int RUNS = 500, CALLS = 512, LEAST_CALLS = 64;
+    /** All that can be asked, one by one: of places, plates, writers, and in all. */
+    private static final int OF_PLACES = 120 * 7, OF_PLATES = 4 * 6, OF_WRITERS = 5 * 6, IN_ALL = 10;
+    private static final int QUESTIONS = OF_PLACES + OF_PLATES + OF_WRITERS + IN_ALL;
 
     private final Random random;
     private final PlateWriters desk = new PlateWriters();
     private final PlainDesk plain = new PlainDesk();
     /** How the run leans: few or all places, how often settings change, how often the dear questions are asked. */
     private final int rows, columns, settings, questions;
+    private int asked = 0;
 
     private RandomRunsTest(long seed) {
         random = new Random(seed);
@@ -144,7 +148,7 @@ public final class RandomRunsTest {
     }
 
     private void write(String text) {
-        for (int from = 0; from < text.length();) {
+        for (int from = 0; from < text.length() && asked < CALLS - 2;) {
             int to = Math.min(text.length(), from + 1 + upTo(7));
             long characters = 0L;
             for (char sign : text.substring(from, to).toCharArray()) characters = characters << 8 | sign;
@@ -178,6 +182,7 @@ public final class RandomRunsTest {
     }
 
     private void same(String what, long got, long want) {
+        asked++;
         if (got != want) throw new AssertionError(what + " answered " + got + ", due is " + want);
     }
 
@@ -189,23 +194,34 @@ public final class RandomRunsTest {
         else if (kind < 30) change(4);
         else if (kind < 40) change(5);
         else if (kind < 46) change(6 + upTo(2));
-        else if (kind < 55) onPad(upTo(4));
+        else if (kind < 55) onPad(upTo(asked < CALLS - 2 ? 4 : 3));
         else if (kind < 62) keeping(upTo(5));
         else question(upTo(80) < questions ? 10 : upTo(9));
     }
 
-    /** Looks at all there is; our class bears more calls than the 512 that are promised. */
-    private void whole() {
-        for (int plate = 0; plate < plain.count(1); plate++)
-            for (int what = 0; what < 6; what++)
-                same("ofPlate(" + plate + ", " + what + ")", desk.ofPlate(plate, what), plain.ofPlate(plate, what));
-        for (int r = 0; r < 10; r++)
-            for (int c = 0; c < 12; c++)
-                for (int what = 0; what < 7; what++)
-                    same("at(" + r + ", " + c + ", " + what + ")", desk.at(r, c, what), plain.at(r, c, what));
-        for (int what = 0; what < 10; what++) same("count(" + what + ")", desk.count(what), plain.count(what));
-        for (int w = 0; w < 5; w++)
-            for (int what = 0; what < 6; what++) same("of(" + w + ", " + what + ")", desk.of(w, what), plain.of(w, what));
+    private void ask(int question) {
+        int it = question;
+        if (it < OF_PLACES) {
+            int row = it / 84, column = it / 7 % 12, what = it % 7;
+            same("at(" + row + ", " + column + ", " + what + ")", desk.at(row, column, what), plain.at(row, column, what));
+            return;
+        }
+        it -= OF_PLACES;
+        int who = it / 6, what = it % 6;
+        if (it < OF_PLATES) {
+            same("ofPlate(" + who + ", " + what + ")", desk.ofPlate(who, what), plain.ofPlate(who, what));
+            return;
+        }
+        it -= OF_PLATES;
+        who = it / 6;
+        if (it < OF_WRITERS) same("of(" + who + ", " + what + ")", desk.of(who, what), plain.of(who, what));
+        else same("count(" + (it - OF_WRITERS) + ")", desk.count(it - OF_WRITERS), plain.count(it - OF_WRITERS));
+    }
+
+    /** All calls that an object bears, and that the run has left, look at what there is, from some question on. */
+    private void look() {
+        int first = random.nextInt(QUESTIONS);
+        for (int i = 0; i < QUESTIONS && asked < CALLS; i++) ask((first + i) % QUESTIONS);
     }
 
     private void run(boolean empty) {
@@ -216,10 +232,9 @@ public final class RandomRunsTest {
                 same("writer(" + press + ")", desk.writer(press), plain.writer(press));
             }
         }
-        for (int i = 0; i < CALLS; i++) {
-            one();
-            if (i % 64 == 63) whole();
-        }
+        int calls = LEAST_CALLS + random.nextInt(CALLS - LEAST_CALLS + 1);
+        while (asked < calls) one();
+        look();
     }
 
     public static void main(String[] args) {

@@ -71,6 +71,38 @@ abstract class Checks {
         return x;
     }
 
+    /** A letter at (4, 4) has taken so much light from (4, 5), and an hour aside has given so much of that back. */
+    static PlateWriters clearedBeside(int loss, int hundredths, boolean letterThere) {
+        PlateWriters x = desk(5);
+        x.set(NEAR, loss / 5);
+        x.set(CLEAR, hundredths);
+        if (letterThere) x.write(0, 4, 5, 0);
+        x.write(0, 4, 4, 0);
+        x.plate();
+        x.pass(1);
+        x.lay(0);
+        light("at(4, 5, 3)", x.at(4, 5, 3), clear(dim(1.0f, loss), hundredths));
+        return x;
+    }
+
+    /** Its light is one bit less than 0.79, though 100 times as much would round to 79. */
+    static PlateWriters oneBitTooDark(boolean letterThere) {
+        PlateWriters x = clearedBeside(30, 30, letterThere);
+        float it = lightOf(x, 53);
+        sure("a bit less than 0.79", it == Math.nextDown(79.0f / 100.0f) && it * 100.0f >= 79.0f);
+        x.set(READ, 79);
+        return x;
+    }
+
+    /** Its light is just 0.53, though 100 times as much would round to less than 53. */
+    static PlateWriters justBrightEnough(boolean letterThere) {
+        PlateWriters x = clearedBeside(50, 6, letterThere);
+        float it = lightOf(x, 53);
+        sure("just 0.53", it == 53.0f / 100.0f && it * 100.0f < 53.0f);
+        x.set(READ, 53);
+        return x;
+    }
+
     static void writeAll(PlateWriters x, int writer) {
         for (int place = 0; place < 120; place++) x.write(writer, place / 12, place % 12, place % 26);
     }

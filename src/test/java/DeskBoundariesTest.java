@@ -382,7 +382,11 @@ public final class DeskBoundariesTest extends Checks {
         x.writer(5);
         for (int plate = 0; plate < 4; plate++) {
             x.plate();
-            for (int place = 11; place < 120; place += 13 + plate) x.write(0, place / 12, place % 12, 0);
+            for (int place = 11; place < 118; place += 13 + plate) {
+                x.write(0, place / 12, place % 12, 0);
+                x.promise(0, (place + 1) / 12, (place + 1) % 12);
+                x.write(0, (place + 2) / 12, (place + 2) % 12, 0);
+            }
         }
         x.lay(onDesk);
         x.set(CLEAR, 37);
@@ -399,11 +403,15 @@ public final class DeskBoundariesTest extends Checks {
                 x.pass(3);
                 x.lay(plate);
                 before.lay(plate);
+                int letters = 0, promises = 0;
                 for (int place = 0; place < 120; place++) {
                     float light = lightOf(before, place);
+                    if (light < 1.0f && before.at(place / 12, place % 12, 0) != NONE) letters++;
+                    if (light < 1.0f && before.at(place / 12, place % 12, 2) != NONE) promises++;
                     for (int hour = 0; hour < 3 && plate != onDesk; hour++) light = clear(light, 37);
                     light("plate " + plate + ", place " + place, x.at(place / 12, place % 12, 3), light);
                 }
+                sure("letters and promised places are clouded also", letters > 0 && promises > 0);
             }
     }
 

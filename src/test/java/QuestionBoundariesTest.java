@@ -167,6 +167,12 @@ public final class QuestionBoundariesTest extends Checks {
         light("at(0, 0, 4)", x.at(0, 0, 4), dim(1.0f, 30));
     }
 
+    @Boundary(of = 11, says = "A letter can be read if the light of its place is at least that.")
+    static void oneBitOfLightDecidesWhetherALetterCanBeRead() {
+        due("a bit too dark", oneBitTooDark(true).at(4, 5, 6), 0);
+        due("just bright enough", justBrightEnough(true).at(4, 5, 6), 1);
+    }
+
     @Boundary(of = 11, says = "NONE (-6) is not an error; it is returned only if no error applies.")
     static void errorsAreToldAheadOfNone() {
         due("at(10, 0, 0)", desk().at(10, 0, 0), NO_SUCH);
@@ -436,6 +442,17 @@ public final class QuestionBoundariesTest extends Checks {
         due("of(1, 5) behind a rub", x.of(1, 5), 2);
     }
 
+    @Boundary(of = 13, says =
+        "5 those that could be read ahead of a letter of it, and not behind that, so far, each time")
+    static void whatIsSpoiledIsToldOfWhoSpoilsIt() {
+        PlateWriters x = desk(1, 5, 1);
+        x.write(2, 4, 4, 0);
+        x.write(0, 4, 6, 0);
+        x.set(READ, 71);
+        due("spoiled", x.write(1, 4, 5, 0), 2);
+        for (int who = 0; who < 3; who++) due("of(" + who + ", 5)", x.of(who, 5), who == 1 ? 2 : 0);
+    }
+
     // ---- promise 14: ofPlate
 
     @Boundary(of = 14, says = "Returns the number; NO_SUCH if there is no such plate")
@@ -624,6 +641,23 @@ public final class QuestionBoundariesTest extends Checks {
             floats += lightOf(x, place);
         }
         sure("a sum of floats would tell something else", sum != floats);
+        due("mean()", x.mean(), Double.doubleToLongBits(sum / 120.0));
+    }
+
+    @Boundary(of = 16, says =
+        "the sum of all its light, each cast to a double, added row by row from 0.0 on, divided by 120.0")
+    static void theMeanIsReckonedRowByRow() {
+        PlateWriters x = desk(5);
+        x.set(NEAR, 18);
+        x.set(FAR, 0);
+        writeAndRub(x, 8, 0, 11);
+        double sum = 0.0, backwards = 0.0, byColumns = 0.0;
+        for (int i = 0; i < 120; i++) {
+            sum += (double) lightOf(x, i);
+            backwards += (double) lightOf(x, 119 - i);
+            byColumns += (double) lightOf(x, i % 10 * 12 + i / 10);
+        }
+        sure("the order decides", sum / 120.0 != backwards / 120.0 && sum / 120.0 != byColumns / 120.0);
         due("mean()", x.mean(), Double.doubleToLongBits(sum / 120.0));
     }
 

@@ -463,6 +463,38 @@ public final class WhatIfBoundariesTest extends Checks {
             }
     }
 
+    @Boundary(of = 19, says = "each at the best place then, as if that was promised to it and written")
+    static void anotherOrderOfPlacesWouldFillMoreOrLess() {
+        PlateWriters[] twins = {desk(3), desk(3), desk(3)};
+        for (PlateWriters x : twins) {
+            x.set(NEAR, 3);
+            x.set(FAR, 5);
+            x.write(0, 0, 0, 0);
+            x.set(READ, 80);
+        }
+        due("by hand", filled(twins[0], 0), 19);
+        due("fills(0)", twins[1].fills(0), 19);
+        int others = 0;
+        for (int place = 0; place < 120; place++) if (twins[2].write(0, place / 12, place % 12, 0) >= 0) others++;
+        sure("row by row there would be more", others > 19);
+    }
+
+    @Boundary(of = 19, says = "until no place has room")
+    static void fillsAlsoWhereOnlyTheLightToldAheadIsEnough() {
+        PlateWriters x = oneBitTooDark(false);
+        x.set(NEAR, 0);
+        x.set(FAR, 0);
+        x.set(READ, 1);
+        for (int row = 2; row <= 6; row++)
+            for (int column = 3; column <= 7; column++)
+                if (row != 4 || column < 4 || column > 5) x.promise(0, row, column);
+        x.set(READ, 79);
+        due("promised places", x.ofPlate(0, 2), 23);
+        due("it has room", x.at(4, 5, 5), 1);
+        due("write there", x.write(0, 4, 5, 0), NOT_POSSIBLE);
+        due("fills(0)", x.fills(0), 120 - 23 - 1);
+    }
+
     @Boundary(of = 19, says = "what if; nothing changes (the bound of hours does not matter)")
     static void fillsChangesNothing() {
         int filled = filled(busyDesk(), 1);
@@ -630,6 +662,22 @@ public final class WhatIfBoundariesTest extends Checks {
                 x.set(READ, it[0]);
                 due("READ " + it[0], x.readableIn(0), it[1]);
             }
+        }
+    }
+
+    @Boundary(of = 21, says = "(from left to right)")
+    static void oneBitOfLightDecidesTheHours() {
+        int[][] cases = {{10, 32, 66, 2}, {6, 10, 73, 2}, {6, 30, 79, 2}, {10, 6, 53, 1}};
+        for (int[] it : cases) {
+            PlateWriters x = desk(5);
+            x.set(NEAR, it[0]);
+            x.set(CLEAR, it[1]);
+            x.write(0, 4, 5, 0);
+            x.write(0, 4, 4, 0);
+            x.set(READ, it[2]);
+            float hour = clear(dim(1.0f, 5 * it[0]), it[1]);
+            sure("an hour misses or hits it by a bit", hour == (it[3] == 2 ? Math.nextDown(it[2] / 100.0f) : it[2] / 100.0f));
+            due("READ " + it[2], x.readableIn(0), it[3]);
         }
     }
 

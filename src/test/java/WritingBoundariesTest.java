@@ -132,6 +132,12 @@ public final class WritingBoundariesTest extends Checks {
         due("write(0, 4, 5, 0)", x.write(0, 4, 5, 0), 0);
     }
 
+    @Boundary(of = 6, says = "or its light is not at least (float) READ / 100.0f")
+    static void oneBitOfLightDecidesAWrite() {
+        due("a bit too dark", oneBitTooDark(false).write(0, 4, 5, 0), NOT_POSSIBLE);
+        due("just bright enough, though it spoils the other one", justBrightEnough(false).write(0, 4, 5, 0), 1);
+    }
+
     @Boundary(of = 6, says = "READ (1 to 99; 40): hundredths of light that a letter needs")
     static void theLeastAndTheMostLightThatIsAsked() {
         PlateWriters x = desk(1);
@@ -438,6 +444,27 @@ public final class WritingBoundariesTest extends Checks {
     }
 
     @Boundary(of = 7, says = "and its light told ahead is at least READ / 100: at least (float) READ / 100.0f")
+    static void oneBitOfLightDecidesWhetherThereIsRoom() {
+        PlateWriters x = oneBitTooDark(false);
+        due("a bit too dark", x.at(4, 5, 5), 0);
+        due("promise there", x.promise(0, 4, 5), NOT_POSSIBLE);
+        x = justBrightEnough(false);
+        due("just bright enough", x.at(4, 5, 5), 1);
+        due("promise there", x.promise(0, 4, 5), 1);
+    }
+
+    @Boundary(of = 7, says = "and its light told ahead is at least READ / 100: at least (float) READ / 100.0f")
+    static void onlyTheLightToldAheadIsAskedForRoom() {
+        PlateWriters x = oneBitTooDark(false);
+        x.set(NEAR, 0);
+        x.promise(0, 4, 6);
+        light("a step with a loss of 0 gives the bit back", x.at(4, 5, 4), 79.0f / 100.0f);
+        due("at(4, 5, 5)", x.at(4, 5, 5), 1);
+        due("write there", x.write(0, 4, 5, 0), NOT_POSSIBLE);
+        due("promise there", x.promise(0, 4, 5), 2);
+    }
+
+    @Boundary(of = 7, says = "and its light told ahead is at least READ / 100: at least (float) READ / 100.0f")
     static void justEnoughLightAheadInTheSecondRing() {
         for (int far = 1; far <= 9; far++) {
             PlateWriters x = desk(5);
@@ -634,6 +661,21 @@ public final class WritingBoundariesTest extends Checks {
         x.write(0, 4, 3, 0);
         x.rub(4, 4);
         light("little light", x.at(4, 4, 3), (dim(1.0f, 90) + 1.0f) / 2.0f);
+    }
+
+    @Boundary(of = 9, says = "the light of its place becomes (light + 1.0f) / 2.0f")
+    static void aRubIsReckonedAsItIsTold() {
+        for (int loss : new int[] {60, 65, 85}) {
+            PlateWriters x = desk(5);
+            x.set(NEAR, loss / 5);
+            x.write(0, 4, 4, 0);
+            x.set(READ, 1);
+            x.write(0, 4, 5, 0);
+            float there = lightOf(x, 52), rubbed = (there + 1.0f) / 2.0f;
+            sure("half of what is missing would be something else", there + (1.0f - there) / 2.0f != rubbed);
+            x.rub(4, 4);
+            light("a loss of " + loss, x.at(4, 4, 3), rubbed);
+        }
     }
 
     @Boundary(of = 9, says = "the light of its place becomes (light + 1.0f) / 2.0f")

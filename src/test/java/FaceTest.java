@@ -9,6 +9,8 @@ import java.nio.file.Path;
 import java.util.Arrays;
 import java.util.List;
 import java.util.TreeSet;
+import java.util.regex.Matcher;
+import java.util.regex.Pattern;
 
 /** The public face, what LANGUAGE.md asks of the file as far as a test can see it, and what calls make. */
 public final class FaceTest {
@@ -43,6 +45,8 @@ public final class FaceTest {
         """;
     private static final String CONSTANTS = "[BAD_TEXT=-3, BAD_VALUE=-2, CLEAR=3, FAR=1, NEAR=0, NONE=-6, "
             + "NOT_POSSIBLE=-5, NO_SUCH=-1, READ=2, TOO_MANY=-4]";
+    private static final List<String> LIBRARY = List.of("Arrays.fill", "Math.abs", "Math.max", "Math.min",
+            "Pad.LONGEST", "System.arraycopy");
     private static final List<String> RULED_OUT = List.of("->", "::", "catch", "try ", "throw", "finally", "synchronized",
             "assert", "Float.", "Double.", "System.out", "package ", "\" +", "+ \"", "static float", "static double",
             "final float ", "final double ", "strictfp", "native", "volatile", "?>");
@@ -105,6 +109,19 @@ public final class FaceTest {
             if (sign.startsWith("import ")) due("an import", sign, "import java.util.Arrays;");
         String code = source.replaceAll("(?m)//.*$", "").replaceAll("(?s)/\\*.*?\\*/", "");
         for (String word : RULED_OUT) due("the file has '" + word + "'", code.contains(word), false);
+        Matcher used = Pattern.compile("\\b[A-Z]\\w*\\.\\w+").matcher(code);
+        while (used.find()) due(used.group() + " may be used", LIBRARY.contains(used.group()), true);
+        methodsAreShort(source.split("\n"));
+    }
+
+    /** Each block that begins where methods do; those inside methods are shorter still. */
+    private static void methodsAreShort(String[] lines) {
+        for (int first = 0; first < lines.length; first++) {
+            Matcher head = Pattern.compile("( {4}| {8})\\S.*\\) \\{").matcher(lines[first]);
+            int last = first;
+            while (head.matches() && !lines[last].equals(head.group(1) + "}")) last++;
+            due("the length of '" + lines[first].trim() + "' is fine", last - first < 60, true);
+        }
     }
 
     /** One room holds all that a run makes: after the constructor, no call makes anything. */
